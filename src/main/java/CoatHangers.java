@@ -594,10 +594,9 @@ public final class CoatHangers {
         static final int HANGER = WORD;
         static final int PERSON = WORD + 1;
         static final int HANGS = WORD + 2;
-        static final int CROOKS_WORD = WORD + 3;
-        static final int BENDS_WORD = WORD + 4;
-        static final int SLIPS_WORD = WORD + 5;
-        static final int COSTS_WORD = WORD + 6;
+        /** The words of LAWS and VARS stand in the order of their numbers. */
+        static final int FIRST_LAW = WORD + 3;
+        static final int LAST_LAW = WORD + 6;
         static final int MOTH = WORD + 7;
         static final int SEED = WORD + 8;
         static final int IF = WORD + 9;
@@ -786,7 +785,8 @@ public final class CoatHangers {
             lookAt(0);
             boolean goesOn = true;
             for (int tell = 0; tell <= Tape.MOST_TOKENS && goesOn && kind != Tape.END; tell++) {
-                goesOn = readTell();
+                boolean isLaw = kind >= Tape.FIRST_LAW && kind <= Tape.LAST_LAW;
+                goesOn = isLaw ? readLaw(draft.law(kind - Tape.FIRST_LAW)) : readTell();
             }
             if (fault == 0 && senseFault != 0) {
                 fault = senseFault;
@@ -800,10 +800,6 @@ public final class CoatHangers {
                 case Tape.HANGER: return readHanger();
                 case Tape.PERSON: return readPerson();
                 case Tape.HANGS: return readHangs();
-                case Tape.CROOKS_WORD: return readLaw(draft.crooks);
-                case Tape.BENDS_WORD: return readLaw(draft.bends);
-                case Tape.SLIPS_WORD: return readLaw(draft.slips);
-                case Tape.COSTS_WORD: return readLaw(draft.costs);
                 case Tape.MOTH: return readMoth();
                 case Tape.SEED: return readSeed();
                 default: return fails(SYNTAX);
@@ -985,7 +981,8 @@ public final class CoatHangers {
 
         private boolean readClosing(Law law) {
             for (int i = 0; i < MOST_DEEP && waiters.deep > 0 && kind == ')'; i++) {
-                waiters.close(law);
+                waiters.letGo(law, 1);
+                waiters.close();
                 if (!goOn()) {
                     return false;
                 }
@@ -1077,8 +1074,8 @@ public final class CoatHangers {
             deep++;
         }
 
-        void close(Law law) {
-            letGo(law, 1);
+        /** The ( is the last one that waits: what waited behind it has been let go. */
+        void close() {
             size = Math.max(0, size - 1);
             deep--;
         }
@@ -1350,7 +1347,7 @@ public final class CoatHangers {
 
     /** Tells what LAWS say of a PERSON on a HANGER. */
     private static final class Reckoner {
-        /** Numbers of the VARS, in the order of their words in Tape. */
+        /** Numbers of the VARS. */
         static final int APART = 0;
         private static final int BENT = 1;
         private static final int WIDE = 2;
