@@ -207,6 +207,28 @@ public final class PromiseTest {
         fault(0, "costs=1" + times(198, "+1") + "; \n");
         fault(0, times(133, "seed 1;"));
         fault(2, times(133, "seed 1;") + "seed @1;");
+        // the 401st token of every sort
+        String full = "costs=1" + times(198, "+1") + ";";
+        for (String word : new String[] {"hanger", "person", "hangs", "crooks", "slips", "moth", "seed"}) fault(2, full + "@" + word);
+        String odd = times(133, "seed 1;");
+        fault(2, odd + "hanger @a 0 1;");
+        fault(2, odd + "person @p 0 1;");
+        fault(2, odd + "hangs @p a;");
+        fault(2, odd + "moth @101;");
+        fault(2, odd + "costs @= 1;");
+        fault(4, times(132, "seed 1;") + "hangs @p a;");
+        fault(2, times(131, "seed 1;") + "costs=1;hangs p a@;");
+        fault(2, times(132, "seed 1;") + "hanger a 0 1@;");
+        fault(2, times(131, "seed 1;") + "costs=1;hanger a 0 @1;");
+        fault(2, times(132, "seed 1;") + "costs=if 1 @<");
+        fault(2, "seed 1;costs=1" + times(197, "+1") + "@+1;");
+        fault(2, "seed 1;costs=1" + times(197, "+1") + "@;");
+        fault(2, "costs=1" + times(198, "+1") + "+@(1);");
+        fault(2, "costs=(1" + times(198, "+1") + "@);");
+        fault(2, "seed 1;costs=if 1" + times(196, "+1") + "<@1;");
+        fault(2, "costs=if 1" + times(198, "+1") + "@<1;");
+        fault(2, "costs=if 1<1" + times(197, "+1") + "@then 1;");
+        fault(2, "costs=if 1<1then 1" + times(196, "+1") + "@else 1;");
         // room and syntax by place, whichever comes first
         fault(1, "costs = @;" + seven + "hanger h 0 1;");
         fault(2, seven + "@hanger h 0 1; costs = ;");
